@@ -1,16 +1,35 @@
 /** Counts the answers that are not as due, and names letters by the sum that letter(i) answers. */
 final class Check {
+    /** What is below every place, core, node and block. */
+    static final int[] TOO_SMALL = {Integer.MIN_VALUE, -1024, -2, -1};
+
     private static int wrong = 0;
     private static int asked = 0;
+    private static int tests = 0;
+    private static String sentence = "";
 
     private Check() {
+    }
+
+    /** Runs the test of one sentence of the document. */
+    static void test(String ofSentence, Runnable body) {
+        tests++;
+        sentence = ofSentence;
+        try {
+            body.run();
+        } catch (RuntimeException e) {
+            wrong++;
+            System.out.println("[" + sentence + "] threw " + e);
+        }
+        sentence = "";
     }
 
     static void due(String what, long got, long want) {
         asked++;
         if (got != want) {
             wrong++;
-            System.out.println(what + ": answered " + got + ", due is " + want);
+            String of = sentence.isEmpty() ? "" : "[" + sentence + "] ";
+            System.out.println(of + what + ": answered " + got + ", due is " + want);
         }
     }
 
@@ -27,8 +46,14 @@ final class Check {
         due(what + ", letter behind the last", x.letter(want.length), -1);
     }
 
+    /** What is above every place, core, node or block, when this is the first above. */
+    static int[] tooLarge(int first) {
+        return new int[] {first, first + 1, first + 1024, Integer.MAX_VALUE};
+    }
+
     static void finish() {
-        System.out.println(wrong == 0 ? asked + " answers are as due" : wrong + " answers are not as due");
+        String of = tests == 0 ? "" : tests + " tests: ";
+        System.out.println(of + (wrong == 0 ? asked + " answers are as due" : wrong + " answers are not as due"));
         if (wrong != 0) {
             System.exit(1);
         }
@@ -71,7 +96,8 @@ final class Check {
 
     /** Delivers the first letter with this sum; it is wrong if there is none. */
     static void bring(TokenMesh x, int sum) {
-        for (int i = 0; i < x.letters(); i++) {
+        int waiting = x.letters();
+        for (int i = 0; i < waiting; i++) {
             if (x.letter(i) == sum) {
                 due("deliver(" + i + ")", x.deliver(i), sum % 8);
                 return;
