@@ -39,9 +39,14 @@ public final class DeliverTest {
         Check.test("OVER: the requests lapse up to n", DeliverTest::overLetters);
         Check.test("OVER: the first of the row becomes active", DeliverTest::overStartsTheNext);
         Check.test("OVER: nothing if they have lapsed already", DeliverTest::overTooLate);
-        Check.test("OVER: a request that is in the row is taken out", DeliverTest::overOfOneInTheRow);
+        Check.test("OVER: a request in the row of block 0 is taken out", () -> overOfOneInTheRow(0));
+        Check.test("OVER: a request in the row of block 1 is taken out", () -> overOfOneInTheRow(1));
+        Check.test("OVER: the active request has a smaller number", DeliverTest::overLapsesOlderActive);
         Check.test("OVER: no request of c is there", DeliverTest::overWithoutRequest);
-        Check.test("lapse: in the rows of both blocks", DeliverTest::lapseInBothBlocks);
+        Check.test("lapse: in the row of block 0 by a PLEASE of block 1", () -> lapseInTheOtherBlock(0));
+        Check.test("lapse: in the row of block 1 by a PLEASE of block 0", () -> lapseInTheOtherBlock(1));
+        Check.test("lapse: a number smaller by two, in the row", DeliverTest::lapseOfMuchOlderInTheRow);
+        Check.test("lapse: a number smaller by two, active", DeliverTest::lapseOfMuchOlderActive);
         Check.finish();
     }
 
@@ -620,29 +625,39 @@ public final class DeliverTest {
         Check.due("no KNOW is sent", x.letters(), waiting - 1);
     }
 
-    private static void overOfOneInTheRow() {
+    private static void overOfOneInTheRow(int b) {
         TokenMesh x = new TokenMesh(3, 0, 1);
-        x.issue(0, true, 0, 3);
-        x.issue(1, false, 0, 4);
-        x.issue(2, true, 0, 5);
-        x.tick(1);
-        Check.bring(x, Check.read(1, 3, 0));
-        Check.bring(x, Check.please(0, 3, 0));
-        Check.bring(x, Check.please(1, 3, 0));
-        Check.bring(x, Check.please(2, 3, 0));
-        Check.bring(x, Check.copy(3, 1, 0, 1));
-        Check.due("row", x.row(0), 2);
+        readByOtherMeans(x, b);
+        Check.due("row", x.row(b), 2);
         int waiting = x.letters();
         Check.bring(x, Check.over(1, 3));
-        Check.due("it is out of the row", x.row(0), 1);
-        Check.due("the active one stays", x.knows(3, 0), 8);
+        Check.due("it is out of the row", x.row(b), 1);
+        Check.due("the active one stays", x.knows(3, b), 8);
         Check.due("no KNOW is sent", x.letters(), waiting - 1);
-        Check.bring(x, Check.know(3, 1, 0));
-        Check.bring(x, Check.bare(1, 0, 0, 1));
-        Check.bring(x, Check.owner(3, 0, 0, 3));
+        Check.bring(x, Check.know(3, 1, b));
+        Check.bring(x, Check.bare(1, 0, b, 1));
+        Check.bring(x, Check.owner(3, 0, b, 3));
         Check.bring(x, Check.over(0, 3));
-        Check.due("core 2 is next", x.knows(3, 0), 8 + 2);
-        Check.due("row", x.row(0), 0);
+        Check.due("core 2 is next", x.knows(3, b), 8 + 2);
+        Check.due("row", x.row(b), 0);
+    }
+
+    /** The OVER of access 2 has taken the place of that of access 1, whose request is active. */
+    private static void overLapsesOlderActive() {
+        TokenMesh x = new TokenMesh(2, 0, 1);
+        x.issue(0, true, 0, 3);
+        x.tick(1);
+        Check.bring(x, Check.please(0, 2, 0));
+        Check.bring(x, Check.owner(2, 0, 0, 3));
+        x.issue(0, true, 1, 4);
+        x.tick(1);
+        Check.bring(x, Check.write(0, 2, 1));
+        Check.bring(x, Check.owner(2, 0, 1, 3));
+        Check.due("access 1 is active still", x.knows(2, 0), 8);
+        Check.bring(x, Check.over(0, 2));
+        Check.due("access 1 has lapsed too", x.knows(2, 0), -1);
+        Check.bring(x, Check.please(0, 2, 1));
+        Check.due("so has access 2 before its PLEASE", x.knows(2, 1), -1);
     }
 
     private static void overWithoutRequest() {
@@ -661,25 +676,61 @@ public final class DeliverTest {
         Check.due("no KNOW is sent", x.letters(), waiting - 1);
     }
 
-    /** A request in the row of one block lapses by the PLEASE of a later access of the other one. */
-    private static void lapseInBothBlocks() {
-        TokenMesh x = new TokenMesh(3, 0, 1);
-        x.issue(0, true, 0, 3);
-        x.issue(1, false, 0, 4);
-        x.issue(2, false, 0, 4);
+    /** Core 0 is served; core 1, in the row before core 2, has read with a token sent before that. */
+    private static void readByOtherMeans(TokenMesh x, int b) {
+        x.issue(0, true, b, 3);
+        x.issue(1, false, b, 4);
+        x.issue(2, true, b, 5);
         x.tick(1);
-        Check.bring(x, Check.read(1, 3, 0));
-        Check.bring(x, Check.please(0, 3, 0));
-        Check.bring(x, Check.please(1, 3, 0));
-        Check.bring(x, Check.please(2, 3, 0));
-        Check.due("row 0", x.row(0), 2);
-        Check.bring(x, Check.copy(3, 1, 0, 1));
+        Check.bring(x, Check.read(1, 3, b));
+        Check.bring(x, Check.please(0, 3, b));
+        Check.bring(x, Check.please(1, 3, b));
+        Check.bring(x, Check.please(2, 3, b));
+        Check.bring(x, Check.copy(3, 1, b, 1));
         Check.due("core 1 has read by other means", x.ended(1), 1);
-        x.issue(1, true, 1, 9);
+    }
+
+    private static void lapseInTheOtherBlock(int b) {
+        TokenMesh x = new TokenMesh(3, 0, 1);
+        readByOtherMeans(x, b);
+        Check.due("row", x.row(b), 2);
+        x.issue(1, true, 1 - b, 9);
         x.tick(1);
-        Check.bring(x, Check.please(1, 3, 1));
-        Check.due("row 0 lost the lapsed one", x.row(0), 1);
-        Check.due("block 0 is still of core 0", x.knows(3, 0), 8);
-        Check.due("block 1 is of core 1", x.knows(3, 1), 9);
+        Check.bring(x, Check.please(1, 3, 1 - b));
+        Check.due("the row lost the lapsed one", x.row(b), 1);
+        Check.due("the block is still of core 0", x.knows(3, b), 8);
+        Check.due("the other block is of core 1", x.knows(3, 1 - b), 9);
+    }
+
+    /** Access 2 of core 1 ends at once, so that nothing is heard of it before the PLEASE of access 3. */
+    private static void lapseOfMuchOlderInTheRow() {
+        TokenMesh x = new TokenMesh(3, 0, 1);
+        readByOtherMeans(x, 0);
+        Check.due("access 2", x.issue(1, false, 0, 0), 1);
+        x.issue(1, true, 0, 9);
+        x.tick(1);
+        Check.bring(x, Check.please(1, 3, 0));
+        Check.due("core 2 and access 3 are in the row", x.row(0), 2);
+        Check.bring(x, Check.know(3, 1, 0));
+        Check.bring(x, Check.bare(1, 0, 0, 1));
+        Check.bring(x, Check.owner(3, 0, 0, 3));
+        Check.bring(x, Check.over(0, 3));
+        Check.due("core 2 is next", x.knows(3, 0), 8 + 2);
+        Check.due("row", x.row(0), 1);
+    }
+
+    private static void lapseOfMuchOlderActive() {
+        TokenMesh x = new TokenMesh(2, 0, 1);
+        x.issue(0, true, 1, 3);
+        x.tick(1);
+        Check.bring(x, Check.please(0, 2, 1));
+        Check.bring(x, Check.owner(2, 0, 1, 3));
+        Check.due("access 2", x.issue(0, false, 1, 0), 1);
+        x.issue(0, true, 0, 9);
+        x.tick(1);
+        Check.due("access 1 is active still", x.knows(2, 1), 8);
+        Check.bring(x, Check.please(0, 2, 0));
+        Check.due("access 1 has lapsed", x.knows(2, 1), -1);
+        Check.due("access 3 is active", x.knows(2, 0), 8);
     }
 }

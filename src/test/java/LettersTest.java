@@ -11,7 +11,8 @@ public final class LettersTest {
         Check.test("the sum of the block: 0 for an OVER", LettersTest::overBearsNoBlock);
         Check.test("the sum of TOKENS: least and greatest", LettersTest::sumsOfTokens);
         Check.test("a letter takes the place of one of its kind", LettersTest::sameKindTakesThePlace);
-        Check.test("of the other block too", LettersTest::otherBlockTakesThePlaceToo);
+        Check.test("of the other block too: READ and PLEASE", LettersTest::otherBlockTakesThePlaceToo);
+        Check.test("of the other block too: WRITE", LettersTest::writeOfTheOtherBlock);
         Check.test("not of one from or to another node", LettersTest::otherNodesStay);
         Check.test("a KNOW only of the same block", LettersTest::knowsOfOtherBlocksStay);
         Check.test("a letter other than TOKENS", LettersTest::tokensNeverTakeAPlace);
@@ -178,6 +179,14 @@ public final class LettersTest {
         x.issue(0, true, 0, 0);
         Check.dueLetters("a WRITE leaves READs", x, Check.read(0, 1, 1), Check.please(0, 2, 1), Check.over(0, 2),
                 Check.write(0, 1, 0), Check.write(0, 2, 0));
+    }
+
+    private static void writeOfTheOtherBlock() {
+        TokenMesh x = new TokenMesh(2, 0, 9);
+        Check.writeFromHome(x, 2, 0, 0, 5);
+        Check.dueLetters("left", x, Check.write(0, 1, 0));
+        x.issue(0, true, 1, 5);
+        Check.dueLetters("WRITE of block 1", x, Check.write(0, 1, 1), Check.write(0, 2, 1));
     }
 
     private static void otherNodesStay() {
